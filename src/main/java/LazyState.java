@@ -259,18 +259,14 @@ public final class LazyState {
 
     private void keepChanges() {
         for (int o = 0; o < objectCount; o++) {
+            int ahead = writtenCount;
             if (bitOf(latest.loadedBits, o) == 1) {
                 noteWritten(o);
             }
-        }
-        if (writtenCount == 0) {
-            return;
-        }
-        raiseHeight();
-        for (int k = 0; k < writtenCount; k++) {
-            int o = writtenLeaves[k] / FIELDS;
-            // one version holds all that was written of an OBJECT; its LEAVES stand side by side
-            if (k == 0 || writtenLeaves[k - 1] / FIELDS != o) {
+            if (writtenCount > ahead) {
+                if (ahead == 0) {
+                    raiseHeight();
+                }
                 newVersion(o, latest.bodyOf(o));
             }
         }

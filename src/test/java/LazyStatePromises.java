@@ -17,8 +17,10 @@ public final class LazyStatePromises {
     }
 
     public static void main(String[] args) {
+        constants();
         newObject();
         object();
+        fields();
         number();
         link();
         row();
@@ -33,6 +35,7 @@ public final class LazyStatePromises {
         handlesWithFields();
         numbersAndLinks();
         items();
+        fullRows();
         newRows();
         shift();
         shiftThrows();
@@ -120,6 +123,12 @@ public final class LazyStatePromises {
         due(what + ": one more", x.written(leaves.length), NONE);
     }
 
+    private static void constants() {
+        due("BAD", BAD, -1);
+        due("FULL", FULL, -2);
+        due("NONE", NONE, -3);
+    }
+
     // promise 1
     private static void newObject() {
         LazyState x = new LazyState();
@@ -159,6 +168,23 @@ public final class LazyStatePromises {
         due("object: height stays", y.told(1), 1);
         due("object: what is cached stays", y.cached(0), 1);
         due("object: new one is not cached", y.cached(1), 0);
+    }
+
+    private static void fields() {
+        String[] sorts = {"NNL-----", "NNNLLR--", "NRRL----"};
+        LazyState x = with(0, 1, 2);
+        for (int o = 0; o < 3; o++) {
+            for (int f = 0; f < 8; f++) {
+                char sort = sorts[o].charAt(f);
+                String what = " of FIELD " + f + " of CLASS " + o;
+                due("number" + what, x.number(o, f, 0), sort == 'N' ? 0 : BAD);
+                due("link" + what, x.link(o, f, NONE), sort == 'L' ? 0 : BAD);
+                due("row" + what, x.row(o, f, NONE), sort == 'R' ? 0 : BAD);
+                due("times" + what, x.times(8 * o + f), sort == '-' ? BAD : 0);
+                long first = sort == '-' ? BAD : sort == 'N' ? 0 : NONE;
+                due("view" + what, x.view(o, f, 0, NONE), first);
+            }
+        }
     }
 
     // promise 3
@@ -232,6 +258,10 @@ public final class LazyStatePromises {
         due("row: as many, but not all 0", y.row(0, 1, 2), 3);
         due("row: all 0", y.view(0, 1, 3, 1), 0);
         due("row: as it was", y.view(0, 1, 2, 1), 9);
+        y.clear(0);
+        then(y, LAY, 0, 1, 1, 0);
+        y.call(0, 0, 9);
+        due("row: ITEM 0 alone is not 0", y.row(0, 1, 2), 5);
     }
 
     // promise 6
@@ -502,6 +532,32 @@ public final class LazyStatePromises {
         throwsAt("ITEM of an empty ROW", x, 0, INDEX, 0);
     }
 
+    /** Two full ROWS of one OBJECT keep apart. */
+    private static void fullRows() {
+        LazyState x = with(2);
+        x.row(0, 1, 8);
+        x.row(0, 2, 8);
+        for (int f = 1; f <= 2; f++) {
+            for (int i = 0; i < 8; i++) {
+                then(x, SET, 1, i);
+                then(x, LAY, 0, f, 1, 0);
+                x.call(0, 0, 10 * f + i);
+                x.clear(0);
+            }
+        }
+        for (int i = 0; i < 8; i++) {
+            due("full rows: ITEM " + i + " of the first one", x.view(0, 1, 18, i), 10 + i);
+            due("full rows: ITEM " + i + " of the other one", x.view(0, 2, 18, i), 20 + i);
+        }
+        then(x, SHIFT, 0, 1, 0, 2, 0);
+        x.call(0, 0, 8);
+        for (int i = 0; i < 8; i++) {
+            due("full rows: ITEM " + i + " shifted", x.view(0, 2, 19, i), 10 + i);
+        }
+        x.row(0, 1, 8);
+        due("full rows: the other one stays", x.view(0, 2, 20, 0), 10);
+    }
+
     private static void newRows() {
         LazyState x = with(1);
         then(x, ROW, 0, 5, 0);
@@ -747,6 +803,7 @@ public final class LazyStatePromises {
         due("touched(MAX, 1)", x.touched(Integer.MAX_VALUE, 1), NONE);
         x.clear(0);
         due("touched: nothing", x.call(0, 0, 4), 0);
+        due("no ACTS done", x.told(7), 0);
         touches("touched: nothing", x);
     }
 
