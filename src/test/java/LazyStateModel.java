@@ -10,7 +10,7 @@ import java.util.Set;
 public final class LazyStateModel {
     private static final int BAD = -1, FULL = -2, NONE = -3;
     private static final String[] SORTS = {"NNL", "NNNLLR", "NRRL"};
-    private static final int RUNS = 1500, CALLS = 512;
+    private static final int RUNS = 10_000, CALLS = 512;
 
     /** A THROW of an ACT. */
     private static final class Thrown extends RuntimeException {
@@ -44,8 +44,12 @@ public final class LazyStateModel {
             return heights.size() - 1;
         }
 
+        boolean isObject(int o) {
+            return o >= 0 && o < types.size();
+        }
+
         char sort(int o, int f) {
-            boolean there = o >= 0 && o < types.size() && f >= 0 && f < SORTS[types.get(o)].length();
+            boolean there = isObject(o) && f >= 0 && f < SORTS[types.get(o)].length();
             return there ? SORTS[types.get(o)].charAt(f) : '-';
         }
 
@@ -79,7 +83,7 @@ public final class LazyStateModel {
         }
 
         int link(int o, int f, int p) {
-            return sort(o, f) == 'L' && (p == NONE || p >= 0 && p < types.size()) ? become(o, f, p) : BAD;
+            return sort(o, f) == 'L' && (p == NONE || isObject(p)) ? become(o, f, p) : BAD;
         }
 
         int row(int o, int f, int n) {
@@ -111,7 +115,7 @@ public final class LazyStateModel {
         }
 
         int refusal(int o, int behaviour) {
-            if (o < 0 || o >= types.size() || behaviour < 0 || behaviour > 5) return BAD;
+            if (!isObject(o) || behaviour < 0 || behaviour > 5) return BAD;
             return height() == 40 ? FULL : 0;
         }
 
@@ -322,6 +326,8 @@ public final class LazyStateModel {
         final Random random;
         final int run;
         int wrong;
+        /** Calls on the object so far; the document speaks of 512. */
+        int made;
         final int[] codes;
 
         Pair(int run, int[] codes) {
@@ -331,6 +337,7 @@ public final class LazyStateModel {
         }
 
         void due(String what, long got, long want, long... n) {
+            made++;
             if (got != want && wrong++ == 0) {
                 System.out.println("run " + run + ": " + what + Arrays.toString(n) + " answered " + got + ", due is " + want);
             }
@@ -382,7 +389,7 @@ public final class LazyStateModel {
                 makeCall();
             } else if (choice < 90) {
                 int o = someObject();
-                int want = o < 0 || o >= m.types.size() ? BAD : m.fetch(o) ? 1 : 0;
+                int want = !m.isObject(o) ? BAD : m.fetch(o) ? 1 : 0;
                 due("hint", x.hint(o), want, o);
             } else {
                 int o = someObject();
@@ -441,47 +448,48 @@ public final class LazyStateModel {
             if (want >= 0) codes[want]++;
         }
 
-        void compareAll() {
-            due("gave", x.gave(), m.latest.gave);
-            due("where", x.where(), m.latest.where);
-            for (int what = -1; what <= 9; what++) {
-                due("told", x.told(what), m.told(what), what);
-            }
-            for (int k = 0; k <= m.latest.touched.size(); k++) {
-                boolean there = k < m.latest.touched.size();
-                due("touched", x.touched(k, 0), there ? m.latest.touched.get(k)[0] : NONE, k, 0);
-                due("touched", x.touched(k, 1), there ? m.latest.touched.get(k)[1] : NONE, k, 1);
-            }
-            for (int k = 0; k <= m.latest.written.size(); k++) {
-                due("written", x.written(k), k < m.latest.written.size() ? m.latest.written.get(k) : NONE, k);
-            }
-            for (int o = -1; o <= 24; o++) {
-                boolean there = o >= 0 && o < m.types.size();
-                due("loaded", x.loaded(o), !there ? BAD : m.latest.loaded.contains(o) ? 1 : 0, o);
-                due("cached", x.cached(o), !there ? BAD : m.cached.contains(o) ? 1 : 0, o);
-            }
-            for (int leaf = -9; leaf <= 200; leaf++) {
-                boolean there = leaf >= 0 && m.sort(leaf / 8, leaf % 8) != '-';
-                due("times", x.times(leaf), there ? m.times[leaf] : BAD, leaf);
-            }
-            for (int k = 0; k < 20; k++) {
-                compareView(someObject(), upTo(5), upTo(m.height()), random.nextInt(3) == 0 ? upTo(8) : NONE);
-            }
-        }
-
-        void compareView(int o, int f, int height, int i) {
-            due("view", x.view(o, f, height, i), m.view(o, f, height, i), o, f, height, i);
-            due("status", x.status(), m.status, o, f, height, i);
-        }
-
-        void compareHistory() {
-            for (int height = -1; height <= 41; height++) {
-                for (int leaf = 0; leaf < 8 * 24; leaf++) {
-                    for (int i = NONE; i <= 8; i++) {
-                        compareView(leaf / 8, leaf % 8, height, i);
-                    }
+        /** One answer that changes nothing but the status. */
+        void oneLook() {
+            switch (random.nextInt(12)) {
+                case 0 -> due("gave", x.gave(), m.latest.gave);
+                case 1 -> due("where", x.where(), m.latest.where);
+                case 2, 3 -> {
+                    int what = upTo(8);
+                    due("told", x.told(what), m.told(what), what);
                 }
+                case 4, 5 -> lookAtTouched(upTo(m.latest.touched.size()), upTo(1));
+                case 6 -> lookAtWritten(upTo(m.latest.written.size()));
+                case 7 -> {
+                    int o = someObject();
+                    due("loaded", x.loaded(o), !m.isObject(o) ? BAD : m.latest.loaded.contains(o) ? 1 : 0, o);
+                }
+                case 8 -> {
+                    int o = someObject();
+                    due("cached", x.cached(o), !m.isObject(o) ? BAD : m.cached.contains(o) ? 1 : 0, o);
+                }
+                case 9 -> {
+                    int leaf = random.nextInt(8) == 0 ? upTo(191) : 8 * someObject() + random.nextInt(6);
+                    boolean there = leaf >= 0 && m.sort(leaf / 8, leaf % 8) != '-';
+                    due("times", x.times(leaf), there ? m.times[leaf] : BAD, leaf);
+                }
+                case 10 -> due("status", x.status(), m.status);
+                default -> lookAtField(someObject(), upTo(5), upTo(m.height()), random.nextInt(3) == 0 ? upTo(8) : NONE);
             }
+        }
+
+        void lookAtTouched(int k, int what) {
+            boolean bad = k < 0 || what < 0 || what > 1;
+            boolean there = !bad && k < m.latest.touched.size();
+            due("touched", x.touched(k, what), bad ? BAD : there ? m.latest.touched.get(k)[what] : NONE, k, what);
+        }
+
+        void lookAtWritten(int k) {
+            int many = m.latest.written.size();
+            due("written", x.written(k), k < 0 ? BAD : k < many ? m.latest.written.get(k) : NONE, k);
+        }
+
+        void lookAtField(int o, int f, int height, int i) {
+            due("view", x.view(o, f, height, i), m.view(o, f, height, i), o, f, height, i);
         }
     }
 
@@ -490,11 +498,14 @@ public final class LazyStateModel {
         int[] codes = new int[9];
         for (int run = 0; run < RUNS && wrong == 0; run++) {
             Pair pair = new Pair(run, codes);
-            for (int k = 0; k < CALLS && pair.wrong == 0; k++) {
-                pair.oneCall();
-                pair.compareAll();
+            int onlyLooks = CALLS - pair.random.nextInt(CALLS);
+            while (pair.made < CALLS && pair.wrong == 0) {
+                if (pair.made < onlyLooks && pair.random.nextInt(3) > 0) {
+                    pair.oneCall();
+                } else {
+                    pair.oneLook();
+                }
             }
-            if (run % 10 == 0) pair.compareHistory();
             wrong += pair.wrong;
         }
         System.out.println("calls by how they ended: " + Arrays.toString(codes));
