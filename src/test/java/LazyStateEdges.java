@@ -406,14 +406,15 @@ public final class LazyStateEdges {
 
         /** A FIELD as it is now. */
         void has(int o, int f, long want) {
-            String text = "view(" + o + ", " + f + ", " + state.told(1) + ", NONE)";
+            String text = "view(" + o + ", " + f + ", " + ask("told(1)") + ", NONE)";
             check(text, ask(text), want);
         }
 
         void hasItems(int o, int f, long... want) {
             has(o, f, want.length);
+            long height = ask("told(1)");
             for (int i = 0; i < want.length; i++) {
-                String text = "view(" + o + ", " + f + ", " + state.told(1) + ", " + i + ")";
+                String text = "view(" + o + ", " + f + ", " + height + ", " + i + ")";
                 check(text, ask(text), want[i]);
             }
         }
@@ -1908,7 +1909,8 @@ public final class LazyStateEdges {
     }
 
     private static void call() {
-        sentence("A CALL of an OBJECT by a BEHAVIOUR with VALUE 0: 0 it gave, else the THROW. BAD; FULL: HEIGHT is 40 (whatever it would do).");
+        sentence("A CALL of an OBJECT by a BEHAVIOUR with VALUE 0: 0 it gave, else the THROW. BAD; FULL: HEIGHT is 40 "
+            + "(whatever it would do).");
         String[] whatever = {"PUT 0 0 0", "GIVE 0", "THROW", "GET 1 0 0", "GO 0", "PUT 0 0 3; PUT 0 0 0"};
         for (String acts : whatever) {
             Probe x = atHeight(39).acts("PUT 0 0 0; GIVE 0");
